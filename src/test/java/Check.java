@@ -45,6 +45,7 @@ final class Check {
             call.run();
         } catch (RuntimeException e) {
             got = e.getClass();
+            byItself(what, e);
         }
         if (got != due) {
             fail(what + " threw " + (got == null ? "nothing" : got.getName())
@@ -52,6 +53,14 @@ final class Check {
         }
         if (desk.digest() != before) {
             fail(what + " changed the desk");
+        }
+    }
+
+    /** The program throws its exceptions itself: neither the machine nor the library does it. */
+    static void byItself(String what, Throwable thrown) {
+        StackTraceElement[] trace = thrown.getStackTrace();
+        if (trace.length == 0 || !trace[0].getClassName().startsWith("HelpDesk")) {
+            fail(what + " threw by itself: " + thrown);
         }
     }
 

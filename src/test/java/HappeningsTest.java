@@ -106,6 +106,16 @@ public final class HappeningsTest {
         passTo(desk, 1446);
         Check.same("21 has its agent again", desk.ticket(0, 0), 1);
         Check.same("21 answer stays", desk.ticket(0, 6), 5);
+        HelpDesk atOnce = new HelpDesk();
+        atOnce.setHours(0, 1440);
+        atOnce.addAgent(1, 127, 0, 1440);
+        atOnce.open(0, 0, 600, 0);
+        atOnce.pass(3);
+        atOnce.pause(0);
+        atOnce.resume(0);
+        atOnce.pass(1);
+        Check.same("21 has its agent again at once", atOnce.ticket(0, 0), 1);
+        Check.same("21 answer at age 0 stays", atOnce.ticket(0, 6), 0);
     }
 
     private static void passSolvesAtLastMinute() {
@@ -191,6 +201,13 @@ public final class HappeningsTest {
         desk.merge(1, 2);
         Check.same("23 not a MERGED one", desk.broken(true), 5);
         Check.same("23 not the solution", desk.broken(false), 0);
+        HelpDesk atOnce = new HelpDesk();
+        atOnce.setHours(0, 1440);
+        atOnce.setTargets(0, 1, 9);
+        atOnce.addAgent(1, 127, 0, 1440);
+        atOnce.open(0, 0, 600, 0);
+        atOnce.pass(3);
+        Check.same("23 answered at age 0", atOnce.broken(true), 0);
     }
 
     private static void brokenSolution() {

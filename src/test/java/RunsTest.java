@@ -72,6 +72,9 @@ public final class RunsTest {
         try {
             return String.valueOf(call.invoke(object, values));
         } catch (InvocationTargetException e) {
+            if (object instanceof HelpDesk) {
+                Check.byItself(call.getName() + Arrays.toString(values), e.getCause());
+            }
             return "throws." + e.getCause().getClass().getSimpleName();
         }
     }
