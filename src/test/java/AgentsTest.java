@@ -11,6 +11,7 @@ public final class AgentsTest {
         setSkillsAnswers();
         setSkillsHandsBack();
         setSkillsThrows();
+        sixAgents();
         agentTells();
         agentThrows();
         nextBySlack();
@@ -57,7 +58,7 @@ public final class AgentsTest {
         Check.same("6 other day", desk.agent(0, 3), 0);
         desk.pass(15);
         Check.same("6 other day, its time", desk.agent(0, 3), 0);
-        passTo(desk, 1440 + 9);
+        Desks.passTo(desk, 1440 + 9);
         Check.same("6 ahead of begin", desk.agent(0, 3), 0);
         desk.pass(1);
         Check.same("6 begin", desk.agent(0, 3), 1);
@@ -65,11 +66,11 @@ public final class AgentsTest {
         Check.same("6 last minute", desk.agent(0, 3), 1);
         desk.pass(1);
         Check.same("6 end", desk.agent(0, 3), 0);
-        passTo(desk, 6 * 1440 + 10);
+        Desks.passTo(desk, 6 * 1440 + 10);
         Check.same("6 last day of the week", desk.agent(0, 3), 1);
-        passTo(desk, 7 * 1440 + 10);
+        Desks.passTo(desk, 7 * 1440 + 10);
         Check.same("6 first day of the next week", desk.agent(0, 3), 0);
-        passTo(desk, 8 * 1440 + 10);
+        Desks.passTo(desk, 8 * 1440 + 10);
         Check.same("6 its day of the next week", desk.agent(0, 3), 1);
     }
 
@@ -117,6 +118,24 @@ public final class AgentsTest {
         }
     }
 
+    private static void sixAgents() {
+        HelpDesk desk = Desks.full();
+        for (int agent = 0; agent < 6; agent++) {
+            Check.same("9 of six", desk.next(agent), agent);
+            Check.same("8 of six", desk.agent(agent, 0), -1);
+        }
+        desk.pass(1);
+        for (int agent = 0; agent < 6; agent++) {
+            Check.same("8 each has its ticket", desk.ticket(desk.agent(agent, 0), 1), agent);
+        }
+        Check.same("7 of six", desk.setSkills(5, 255), 32);
+        Check.same("8 the last one keeps its ticket", desk.agent(5, 0), 5);
+        Check.same("7 of six again", desk.setSkills(5, 0), 255);
+        Check.same("8 the last one has handed it back", desk.agent(5, 0), -1);
+        Check.same("9 without skills", desk.next(5), -1);
+        Check.same("8 the last but one keeps its own", desk.agent(4, 0), 4);
+    }
+
     private static void agentTells() {
         HelpDesk desk = new HelpDesk();
         desk.addAgent(1, 127, 2, 10);
@@ -136,7 +155,7 @@ public final class AgentsTest {
         Check.same("8 handed back", desk.ticket(1, 0), 0);
         Check.same("8 handed back, its agent", desk.ticket(1, 1), -1);
         desk.reopen(0, 1);
-        passTo(desk, 1440 + 3);
+        Desks.passTo(desk, 1440 + 3);
         tells(desk, "8 solved again", -1, 9, 2, 1);
     }
 
@@ -252,12 +271,6 @@ public final class AgentsTest {
         desk.addAgent(1, 127, 0, 1440);
         for (int agent : new int[] {-1, 1, MIN, MAX}) {
             Check.outOfBounds(desk, "9 agent " + agent, () -> desk.next(agent));
-        }
-    }
-
-    private static void passTo(HelpDesk desk, int minute) {
-        while (desk.now() < minute) {
-            desk.pass(Math.min(600, minute - desk.now()));
         }
     }
 }

@@ -12,12 +12,17 @@ public final class HappeningsTest {
         passSolvesAtLastMinute();
         passThrows();
         passToTheEnd();
+        passManyToTheEnd();
         allAnswers();
+        allOfTwenty();
         allThrows();
         brokenAnswer();
         brokenSolution();
+        brokenOfTwenty();
         lackingAnswers();
+        lackingAll();
         successAnswers();
+        successOfTwenty();
         digestOfNewDesk();
         digestOfUsedDesk();
         Check.finish("HappeningsTest");
@@ -90,7 +95,7 @@ public final class HappeningsTest {
         desk.pass(600);
         Check.same("21 SOLVED age stays", desk.ticket(0, 3), 60);
         Check.same("21 closed", desk.ticket(1, 3), 480);
-        passTo(desk, 7 * 1440);
+        Desks.passTo(desk, 7 * 1440);
         Check.same("21 no service at the end of the week", desk.ticket(1, 3), 5 * 480);
     }
 
@@ -103,7 +108,7 @@ public final class HappeningsTest {
         Check.same("21 no answer", desk.ticket(0, 6), -1);
         desk.pass(1);
         Check.same("21 answer ahead of aging", desk.ticket(0, 6), 5);
-        passTo(desk, 1446);
+        Desks.passTo(desk, 1446);
         Check.same("21 has its agent again", desk.ticket(0, 0), 1);
         Check.same("21 answer stays", desk.ticket(0, 6), 5);
         HelpDesk atOnce = new HelpDesk();
@@ -144,13 +149,26 @@ public final class HappeningsTest {
 
     private static void passToTheEnd() {
         HelpDesk desk = new HelpDesk();
-        passTo(desk, 99998);
+        Desks.passTo(desk, 99998);
         Check.illegalState(desk, "21 too late", () -> desk.pass(2));
         Check.illegalArgument(desk, "21 argument first", () -> desk.pass(601));
         Check.same("21 last minute", desk.pass(1), 0);
         Check.same("21 now", desk.now(), 99999);
         Check.illegalState(desk, "21 at the end", () -> desk.pass(1));
         Check.illegalState(desk, "21 at the end, many", () -> desk.pass(600));
+    }
+
+    private static void passManyToTheEnd() {
+        HelpDesk desk = new HelpDesk();
+        Desks.passTo(desk, 99399);
+        Check.same("21 the last 600 minutes", desk.pass(600), 0);
+        Check.same("21 now, then", desk.now(), 99999);
+        HelpDesk later = new HelpDesk();
+        Desks.passTo(later, 99400);
+        Check.illegalState(later, "21 one too many", () -> later.pass(600));
+        Check.same("21 none has passed", later.now(), 99400);
+        Check.same("21 one less", later.pass(599), 0);
+        Check.same("21 now, one less", later.now(), 99999);
     }
 
     private static void allAnswers() {
@@ -171,6 +189,40 @@ public final class HappeningsTest {
         Check.same("22 PAUSED", desk.all(2), 4 + (1 << 19));
         Check.same("22 MERGED", desk.all(4), 8);
         Check.same("22 WAITING", desk.all(0), (1 << 19) - 16);
+    }
+
+    private static void allOfTwenty() {
+        int every = (1 << 20) - 1;
+        HelpDesk desk = Desks.full();
+        Check.same("22 all WAITING", desk.all(0), every);
+        for (int i = 0; i < 20; i++) {
+            desk.pause(i);
+        }
+        Check.same("22 none WAITING", desk.all(0), 0);
+        Check.same("22 all PAUSED", desk.all(2), every);
+        for (int i = 0; i < 19; i++) {
+            desk.merge(i, 19);
+        }
+        Check.same("22 all but one MERGED", desk.all(4), every >> 1);
+        Check.same("22 one PAUSED", desk.all(2), 1 << 19);
+        HelpDesk solving = twentySolved();
+        Check.same("22 all SOLVED", solving.all(3), every);
+        Check.same("22 none is WORKED", solving.all(1), 0);
+    }
+
+    /** Twenty tickets with a minute's work each, the i-th one with priority i % 4 and age i + 1. */
+    private static HelpDesk twentySolved() {
+        HelpDesk desk = new HelpDesk();
+        desk.setHours(0, 1440);
+        for (int i = 0; i < 4; i++) {
+            desk.setTargets(i, 5, 10);
+        }
+        desk.addAgent(1, 127, 0, 1440);
+        for (int i = 0; i < 20; i++) {
+            desk.open(0, i % 4, 1, i % 10);
+        }
+        Check.same("21 all are solved", desk.pass(20), 20);
+        return desk;
     }
 
     private static void allThrows() {
@@ -234,6 +286,49 @@ public final class HappeningsTest {
         Check.same("23 solution by the priority that it has now", desk.broken(false), 4);
     }
 
+    private static void brokenOfTwenty() {
+        HelpDesk desk = twentySolved();
+        int every = (1 << 20) - 1;
+        Check.same("23 answers up to age 5 in time", desk.broken(true), every - ((1 << 6) - 1));
+        Check.same("23 solutions up to age 10 in time", desk.broken(false), every - ((1 << 10) - 1));
+        for (int i = 0; i < 4; i++) {
+            desk.setTargets(i, 19, 20);
+        }
+        Check.same("23 no answer", desk.broken(true), 0);
+        Check.same("23 no solution", desk.broken(false), 0);
+        for (int i = 0; i < 4; i++) {
+            desk.setTargets(i, 18, 19);
+        }
+        Check.same("23 the last answer", desk.broken(true), 1 << 19);
+        Check.same("23 the last solution", desk.broken(false), 1 << 19);
+        for (int i = 0; i < 4; i++) {
+            desk.setTargets(i, 1, 1);
+        }
+        Check.same("23 all but the first two answers", desk.broken(true), every - 3);
+        Check.same("23 all but the first solution", desk.broken(false), every - 1);
+    }
+
+    private static void lackingAll() {
+        HelpDesk desk = new HelpDesk();
+        for (int i = 0; i < 8; i++) {
+            desk.open(i, 0, 1, 0);
+        }
+        Check.same("24 all skills, no agents", desk.lacking(), 255);
+        desk.addAgent(0, 127, 0, 1440);
+        Check.same("24 all skills, none had", desk.lacking(), 255);
+        desk.setSkills(0, 127);
+        Check.same("24 the last one", desk.lacking(), 128);
+        desk.setSkills(0, 254);
+        Check.same("24 the first one", desk.lacking(), 1);
+        desk.addAgent(1, 1, 0, 1);
+        Check.same("24 had together", desk.lacking(), 0);
+        desk.setSkills(1, 0);
+        desk.setSkills(0, 255);
+        Check.same("24 had by one", desk.lacking(), 0);
+        desk.setSkills(1, 255);
+        Check.same("24 had by both", desk.lacking(), 0);
+    }
+
     private static void lackingAnswers() {
         HelpDesk desk = new HelpDesk();
         Check.same("24 no tickets", desk.lacking(), 0);
@@ -287,6 +382,20 @@ public final class HappeningsTest {
         Check.sameDouble("25 none of two", desk.success(), 0.0);
     }
 
+    private static void successOfTwenty() {
+        HelpDesk desk = twentySolved();
+        for (int inTime = 1; inTime <= 20; inTime++) {
+            for (int i = 0; i < 4; i++) {
+                desk.setTargets(i, 1, inTime);
+            }
+            Check.sameDouble("25 of twenty", desk.success(), inTime / 20.0);
+        }
+        for (int i = 0; i < 20; i++) {
+            desk.reopen(i, 1);
+        }
+        Check.sameDouble("25 none is left", desk.success(), 1.0);
+    }
+
     private static void digestOfNewDesk() {
         long[] numbers = {0, 540, 1020, 60, 240, 120, 480, 240, 960, 480, 1920, 0, 0};
         Check.same("26 new", new HelpDesk().digest(), digested(numbers));
@@ -320,11 +429,5 @@ public final class HappeningsTest {
             d = d * 31 + x;
         }
         return d;
-    }
-
-    private static void passTo(HelpDesk desk, int minute) {
-        while (desk.now() < minute) {
-            desk.pass(Math.min(600, minute - desk.now()));
-        }
     }
 }

@@ -9,6 +9,7 @@ public final class HoursTest {
         setHoursChangesService();
         setHoursThrows();
         setTargetsAnswers();
+        setTargetsOfOnePriority();
         setTargetsThrows();
         nowGoesOn();
         serviceCounts();
@@ -85,6 +86,18 @@ public final class HoursTest {
         Check.same("3 solution by new target", desk.broken(false), 0);
     }
 
+    private static void setTargetsOfOnePriority() {
+        for (int priority = 0; priority < 4; priority++) {
+            HelpDesk desk = new HelpDesk();
+            HelpDesk other = new HelpDesk();
+            desk.setTargets(priority, 7, 9);
+            for (int i = 0; i < 4; i++) {
+                Check.same("3 priority " + i + " by that of " + priority, desk.setTargets(i, 1, 1),
+                        i == priority ? 9 : other.setTargets(i, 1, 1));
+            }
+        }
+    }
+
     private static void setTargetsThrows() {
         HelpDesk desk = new HelpDesk();
         for (int priority : new int[] {-1, 4, MIN, MAX}) {
@@ -109,6 +122,8 @@ public final class HoursTest {
         Check.same("4 now later", desk.now(), 607);
         desk.setHours(1, 2);
         Check.same("4 now stays", desk.now(), 607);
+        Desks.passTo(desk, Desks.LAST_MINUTE);
+        Check.same("4 the last minute", desk.now(), 99999);
     }
 
     private static void serviceCounts() {
@@ -128,11 +143,22 @@ public final class HoursTest {
         Check.same("5 eighth day", desk.service(7 * 1440, 8 * 1440), 480);
         Check.same("5 all", desk.service(0, 99999), 24000);
         Check.same("5 end", desk.service(99999, 99999), 0);
+        Check.same("5 first minute", desk.service(0, 0), 0);
+        Check.same("5 last minute", desk.service(99998, 99999), 0);
+        Check.same("5 one minute", desk.service(540, 540), 0);
         desk.pass(600);
         Check.same("5 whatever minute it is", desk.service(0, 1440), 480);
         desk.setHours(0, 1440);
         Check.same("5 whole days", desk.service(0, 99999), 50 * 1440);
         Check.same("5 over midnight", desk.service(1439, 1441), 2);
+        Check.same("5 into the fifth day's end", desk.service(5 * 1440 - 1, 7 * 1440), 1);
+        Check.same("5 out of the seventh day", desk.service(5 * 1440, 7 * 1440 + 1), 1);
+        desk.setHours(1439, 1440);
+        Check.same("5 a day's last minute", desk.service(1439, 1440), 1);
+        Check.same("5 ahead of a day's last minute", desk.service(0, 1439), 0);
+        desk.setHours(0, 1);
+        Check.same("5 a day's first minute", desk.service(0, 1), 1);
+        Check.same("5 behind a day's first minute", desk.service(1, 1440), 0);
     }
 
     private static void serviceThrows() {

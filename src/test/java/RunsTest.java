@@ -39,6 +39,9 @@ public final class RunsTest {
         HelpDesk desk = new HelpDesk();
         PlainDesk plain = new PlainDesk();
         int longest = new int[] {3, 40, 250, 600}[run % 4];
+        if (run % 5 == 4) {
+            beginLate(desk, plain);
+        }
         for (int i = 0; i < CALLS; i++) {
             Method call = chosen(calls);
             Object[] values = values(call, longest);
@@ -52,6 +55,16 @@ public final class RunsTest {
                         + Arrays.toString(values));
                 return;
             }
+        }
+    }
+
+    /** From minute 0 on, a run's calls would not come to the last minute. */
+    private static void beginLate(HelpDesk desk, PlainDesk plain) {
+        int first = Desks.LAST_MINUTE - below(20000);
+        while (desk.now() < first) {
+            int minutes = Math.min(600, first - desk.now());
+            desk.pass(minutes);
+            plain.pass(minutes);
         }
     }
 

@@ -14,14 +14,20 @@ public final class TicketsTest {
         pauseWorked();
         pauseThrows();
         resumeAnswers();
+        resumeAtTheEnd();
         resumeThrows();
         mergeAnswers();
         mergeTakesFromAgent();
         mergeOfPaused();
+        mergeByOne();
+        mergeLeavesAllElse();
+        mergeLeavesLatestAgent();
         mergeThrows();
         reopenAnswers();
+        reopenAgainAndAgain();
         reopenLimit();
         reopenThrows();
+        twentyTickets();
         ticketTells();
         ticketThrows();
         mainAndCustomers();
@@ -171,6 +177,14 @@ public final class TicketsTest {
         Check.same("13 minutes outside of service too", desk.resume(2), 600);
     }
 
+    private static void resumeAtTheEnd() {
+        HelpDesk desk = threeTickets();
+        Check.same("12 in the first minute", desk.pause(2), 600);
+        Desks.passTo(desk, Desks.LAST_MINUTE);
+        Check.same("13 from the first minute to the last", desk.resume(2), 99999);
+        Check.same("13 its age", desk.ticket(2, 3), 0);
+    }
+
     private static void resumeThrows() {
         HelpDesk desk = threeTickets();
         for (int ticket : NO_TICKETS) {
@@ -235,6 +249,74 @@ public final class TicketsTest {
         Check.same("14 PAUSED stays", desk.ticket(1, 0), 2);
     }
 
+    /** Priorities and ages of both that are the same, or differ by one. */
+    private static void mergeByOne() {
+        for (int older = -1; older <= 1; older++) {
+            for (int urgent = -1; urgent <= 1; urgent++) {
+                HelpDesk desk = new HelpDesk();
+                desk.setHours(0, 1440);
+                desk.open(0, 1 - urgent, 1, 0);
+                desk.open(0, 1, 1, 0);
+                desk.pass(1);
+                if (older != 0) {
+                    desk.pause(older > 0 ? 1 : 0);
+                }
+                desk.pass(1);
+                String what = ", older by " + older + ", more urgent by " + urgent;
+                Check.same("14 the same customer" + what, desk.merge(0, 1), 1);
+                Check.same("14 priority" + what, desk.ticket(1, 2), urgent > 0 ? 0 : 1);
+                Check.same("14 age" + what, desk.ticket(1, 3), 2);
+                Check.same("14 its own age" + what, desk.ticket(0, 3), older < 0 ? 1 : 2);
+                Check.same("14 its own priority" + what, desk.ticket(0, 2), 1 - urgent);
+            }
+        }
+    }
+
+    private static void mergeLeavesAllElse() {
+        HelpDesk desk = threeTickets();
+        desk.pass(2);
+        desk.reopen(0, 20);
+        desk.pass(3);
+        desk.pause(0);
+        int[] merged = {4, -1, 1, 5, 5, 22, 0, 1};
+        int[] other = {0, -1, 1, 5, 0, 600, -1, 0};
+        desk.merge(0, 2);
+        for (int what = 0; what < 8; what++) {
+            Check.same("14 merged one's " + what, desk.ticket(0, what), merged[what]);
+            Check.same("14 other one's " + what, desk.ticket(2, what), other[what]);
+        }
+        HelpDesk back = threeTickets();
+        back.pass(2);
+        back.reopen(0, 20);
+        back.pass(3);
+        int[] worked = {1, 0, 1, 5, 5, 22, 0, 1};
+        back.merge(2, 0);
+        for (int what = 0; what < 8; what++) {
+            Check.same("14 WORKED one's " + what, back.ticket(0, what), worked[what]);
+        }
+        Check.same("14 it is worked at on", back.pass(17), 1);
+    }
+
+    private static void mergeLeavesLatestAgent() {
+        HelpDesk desk = new HelpDesk();
+        desk.addAgent(1, 127, 0, 1440);
+        desk.addAgent(2, 127, 0, 1440);
+        desk.open(0, 3, 9, 0);
+        desk.open(1, 3, 9, 0);
+        desk.pass(1);
+        desk.open(1, 3, 9, 0);
+        desk.open(0, 0, 9, 0);
+        desk.merge(1, 2);
+        desk.setSkills(0, 3);
+        desk.setSkills(1, 3);
+        desk.pause(0);
+        desk.resume(0);
+        Check.same("14 the merged one's agent is not the latest one", desk.next(1), 3);
+        desk.merge(2, 0);
+        Check.same("14 the other one's latest agent stays", desk.next(0), 0);
+        Check.same("14 nor by way of others", desk.next(1), 3);
+    }
+
     private static void mergeThrows() {
         HelpDesk desk = threeTickets();
         for (int ticket : NO_TICKETS) {
@@ -275,18 +357,36 @@ public final class TicketsTest {
         Check.same("15 age in all", desk.ticket(0, 3), 303);
     }
 
+    private static void reopenAgainAndAgain() {
+        HelpDesk desk = new HelpDesk();
+        desk.addAgent(1, 127, 0, 1440);
+        desk.open(0, 0, 600, 0);
+        Check.same("15 solved at first", desk.pass(600), 1);
+        for (int i = 1; i <= 40; i++) {
+            Check.same("15 effort beyond 600", desk.reopen(0, 300), 600 + 300 * i);
+            Check.same("12 only what is more", desk.pause(0), 300);
+            Check.same("13 at once", desk.resume(0), 0);
+            Check.same("15 not solved yet", desk.pass(299), 0);
+            Check.same("12 one minute more", desk.pause(0), 1);
+            desk.resume(0);
+            Check.same("15 solved again", desk.pass(1), 1);
+            Check.same("15 done", desk.ticket(0, 4), 600 + 300 * i);
+            Check.same("15 how often by now", desk.ticket(0, 7), i);
+        }
+    }
+
     private static void reopenLimit() {
         HelpDesk desk = threeTickets();
         desk.pass(1);
         desk.pass(1);
         Check.same("15 solved", desk.ticket(0, 0), 3);
-        passTo(desk, 2 + 7199);
+        Desks.passTo(desk, 2 + 7199);
         Check.same("15 just in time", desk.reopen(0, 1), 3);
         Check.same("15 solved again", desk.pass(1), 1);
-        passTo(desk, 7202 + 7199);
+        Desks.passTo(desk, 7202 + 7199);
         Check.same("15 by its latest solution", desk.reopen(0, 1), 4);
         desk.pass(1);
-        passTo(desk, desk.now() + 7200);
+        Desks.passTo(desk, desk.now() + 7200);
         Check.illegalState(desk, "15 too late", () -> desk.reopen(0, 1));
         Check.illegalArgument(desk, "15 argument first, too late", () -> desk.reopen(0, 0));
     }
@@ -307,6 +407,30 @@ public final class TicketsTest {
         Check.illegalState(desk, "15 PAUSED", () -> desk.reopen(0, 1));
         desk.merge(0, 1);
         Check.illegalState(desk, "15 MERGED", () -> desk.reopen(0, 1));
+    }
+
+    /** The last one of as many tickets as there may be. */
+    private static void twentyTickets() {
+        HelpDesk desk = Desks.full();
+        Check.same("11 of twenty", desk.setPriority(19, 0), 3);
+        Check.same("12 of twenty", desk.pause(19), 600);
+        Check.same("13 of twenty", desk.resume(19), 0);
+        Check.same("17 of twenty", desk.ticket(19, 5), 600);
+        Check.same("18 of twenty", desk.main(19), 19);
+        Check.same("19 of twenty", desk.customers(19), 512);
+        Check.same("20 of twenty", desk.due(19), 540 + 240);
+        Check.same("14 of twenty", desk.merge(18, 19), 256 + 512);
+        Check.same("14 of twenty, the other way", desk.merge(19, 0), 1 + 256 + 512);
+        Check.same("18 of twenty, MERGED", desk.main(18), 0);
+        HelpDesk other = Desks.full();
+        other.setSkills(3, 0);
+        other.setSkills(0, 8);
+        for (int i = 3; i < 19; i += 8) {
+            other.pause(i);
+        }
+        other.pass(600);
+        Check.same("21 the last one is SOLVED", other.ticket(19, 0), 3);
+        Check.same("15 of twenty", other.reopen(19, 300), 900);
     }
 
     private static void ticketTells() {
@@ -431,10 +555,10 @@ public final class TicketsTest {
         Check.same("20 at it", desk.due(0), last);
         desk.setTargets(0, 1, 50);
         Check.same("20 behind it", desk.due(0), -1);
-        passTo(desk, last);
+        Desks.passTo(desk, last);
         desk.setTargets(0, 1, 1);
         Check.same("20 one is not enough", desk.due(0), -1);
-        passTo(desk, 99999);
+        Desks.passTo(desk, 99999);
         Check.same("20 at the end", desk.due(0), -1);
     }
 
@@ -442,12 +566,6 @@ public final class TicketsTest {
         HelpDesk desk = threeTickets();
         for (int ticket : NO_TICKETS) {
             Check.outOfBounds(desk, "20 ticket " + ticket, () -> desk.due(ticket));
-        }
-    }
-
-    private static void passTo(HelpDesk desk, int minute) {
-        while (desk.now() < minute) {
-            desk.pass(Math.min(600, minute - desk.now()));
         }
     }
 }
