@@ -278,6 +278,15 @@ public final class TermsTest {
         desk.pass(1);
         Check.same("takes its own", desk.ticket(0, 0), 3);
         Check.same("takes what is left", desk.agent(1, 0), 1);
+        HelpDesk greater = new HelpDesk();
+        greater.addAgent(2, 127, 0, DAY);
+        greater.open(0, 0, 600, 0);
+        greater.open(1, 3, 2, 0);
+        greater.pass(1);
+        greater.pause(1);
+        greater.resume(1);
+        greater.setSkills(0, 3);
+        Check.same("its own with a greater number, a minute ahead of its end", greater.next(0), 1);
     }
 
     /** "otherwise those with less slack come first": by one minute, and below 0 too. */
